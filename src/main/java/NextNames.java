@@ -10,10 +10,11 @@ public final class NextNames {
     private static final int ROWS = 8, MOST_ITEMS = 40, LANES = 3;
     private static final int MOST_BYTES = 100, MOST_THINGS = 5, MOST_PEOPLE = 7, MOST_PLACES = 16;
     private static final int MOST_ACTS = 24, IMAGES = 2, LAST_DAY = 999, MOST_LEFT = 16;
-    private static final int FAR = 60, NEVER = FAR + 1, MOST_KEPT = 12, TELLABLE = 12, STEPS = 10;
+    private static final int FAR = 60, NEVER = FAR + 1, MOST_KEPT = 12, TELLABLE = 12, MOST_STEP = 9;
     private static final int MOST_SEED = 999999;
     private static final long FACTOR = 16807L, MODULUS = 2147483647L;
     private static final int PERSON = 0, WALKER = 1, KEPT = 2, BOLD = 3, STAYER = 4, RICH = 5;
+    private static final int BY_NAME = 0, BY_SORT = 1, BY_STEP = 2;
 
     private final Rows rows;
     private final Reader reader;
@@ -368,54 +369,15 @@ public final class NextNames {
     }
 
     public int called(int person, int row, int i, int n) {
-        if (!canTell(person, row, n)) {
-            return BAD;
-        }
-        int finding = rows.seek(row, i, n);
-        if (finding != 0) {
-            return found(finding);
-        }
-        int fitting = 0;
-        for (int t = 0; t < now.things; t++) {
-            fate.begin(now, person);
-            fate.callAfter(now, t);
-            fitting |= fits(row, i, n) ? 1 << t : 0;
-        }
-        return sound(fitting);
+        return allThatFit(BY_NAME, person, row, i, n);
     }
 
     public int who(int person, int row, int i, int n) {
-        if (!canTell(person, row, n)) {
-            return BAD;
-        }
-        int finding = rows.seek(row, i, n);
-        if (finding != 0) {
-            return found(finding);
-        }
-        int fitting = 0;
-        for (int sort = WALKER; sort <= RICH; sort++) {
-            fate.begin(now, person);
-            fate.sort = sort;
-            fitting |= fits(row, i, n) ? 1 << sort : 0;
-        }
-        return sound(fitting);
+        return allThatFit(BY_SORT, person, row, i, n);
     }
 
     public int steps(int person, int row, int i, int n) {
-        if (!canTell(person, row, n)) {
-            return BAD;
-        }
-        int finding = rows.seek(row, i, n);
-        if (finding != 0) {
-            return found(finding);
-        }
-        int fitting = 0;
-        for (int step = 0; step < STEPS; step++) {
-            fate.begin(now, person);
-            fate.step = step;
-            fitting |= fits(row, i, n) ? 1 << step : 0;
-        }
-        return sound(fitting);
+        return allThatFit(BY_STEP, person, row, i, n);
     }
 
     public int namesakes(int what) {
@@ -596,8 +558,28 @@ public final class NextNames {
         return !isOutside(place, 0, now.places - 1);
     }
 
-    private boolean canTell(int person, int row, int n) {
-        return isPerson(person) && isRow(row) && !isOutside(n, 1, TELLABLE);
+    /** CALLED, WHO, STEPS: the bits of all that one could be, so that he is where the row tells. */
+    private int allThatFit(int by, int person, int row, int i, int n) {
+        if (!isPerson(person) || !isRow(row) || isOutside(n, 1, TELLABLE)) {
+            return BAD;
+        }
+        int finding = rows.seek(row, i, n);
+        if (finding != 0) {
+            return found(finding);
+        }
+        int first = by == BY_SORT ? WALKER : 0;
+        int last = by == BY_SORT ? RICH : by == BY_NAME ? now.things - 1 : MOST_STEP;
+        int fitting = 0;
+        for (int one = first; one <= last; one++) {
+            fate.begin(now, person);
+            switch (by) {
+                case BY_NAME: fate.callAfter(now, one); break;
+                case BY_SORT: fate.sort = one; break;
+                default: fate.step = one; break;
+            }
+            fitting |= fits(row, i, n) ? 1 << one : 0;
+        }
+        return sound(fitting);
     }
 
     /** Whether the fate that has begun goes as the row tells. */
@@ -987,11 +969,18 @@ public final class NextNames {
             return true;
         }
 
-        /** The tape is empty then, FAULT or not. */
+        /** Whether there was no FAULT; the tape is empty then, anyhow. */
         boolean readTape() {
             at = 0;
             look();
-            boolean sound = readLaw() && readThings() && readPeople();
+            boolean sound = readLaw() && readThing();
+            for (int t = 1; t <= MOST_THINGS && sound && token == 't'; t++) {
+                sound = readThing();
+            }
+            sound = sound && readPerson();
+            for (int p = 1; p <= MOST_PEOPLE && sound && token != END; p++) {
+                sound = readPerson();
+            }
             size = 0;
             return sound;
         }
@@ -1011,14 +1000,6 @@ public final class NextNames {
             }
             draft.late = number;
             return takeSign(';');
-        }
-
-        boolean readThings() {
-            boolean sound = readThing();
-            for (int t = 1; t <= MOST_THINGS && sound && token == 't'; t++) {
-                sound = readThing();
-            }
-            return sound;
         }
 
         boolean readThing() {
@@ -1041,14 +1022,6 @@ public final class NextNames {
             return takeSign(';');
         }
 
-        boolean readPeople() {
-            boolean sound = readPerson();
-            for (int p = 1; p <= MOST_PEOPLE && sound && token != END; p++) {
-                sound = readPerson();
-            }
-            return sound;
-        }
-
         boolean readPerson() {
             int p = draft.people;
             int sort = sortOf(token);
@@ -1066,7 +1039,7 @@ public final class NextNames {
                 return false;
             }
             draft.place[p] = number;
-            if (!takeSign(',') || !takeNumber(0, STEPS - 1)) {
+            if (!takeSign(',') || !takeNumber(0, MOST_STEP)) {
                 return false;
             }
             draft.step[p] = number;
@@ -1118,32 +1091,32 @@ public final class NextNames {
 
         /** The TOKEN that begins at this byte: a letter or a sign is its own number, which no other token has. */
         void look() {
-            token = END;
             end = at;
+            token = END;
             if (at >= size) {
                 return;
             }
             int first = tape[at];
             end = at + 1;
-            token = NO_TOKEN;
-            if (first == ',' || first == ';' || !isOutside(first, 'a', 'z')) {
+            if (first == ',' || first == ';' || first >= 'a' && first <= 'z') {
                 token = first;
-            } else if (isFigure(at)) {
-                lookAtNumber();
+                return;
             }
-        }
-
-        void lookAtNumber() {
-            value = tape[at] - '0';
-            if (isFigure(at + 1)) {
-                value = 10 * value + tape[at + 1] - '0';
-                end = at + 2;
+            token = NO_TOKEN;
+            if (!isFigure(at)) {
+                return;
             }
-            token = end == at + 2 && isFigure(end) ? NO_TOKEN : NUMBER;
+            value = first - '0';
+            if (isFigure(end)) {
+                value = 10 * value + tape[end] - '0';
+                end++;
+            }
+            // Behind one figure no other stands here: only a run of three is found.
+            token = isFigure(end) ? NO_TOKEN : NUMBER;
         }
 
         boolean isFigure(int i) {
-            return i < size && !isOutside(tape[i], '0', '9');
+            return i < size && tape[i] >= '0' && tape[i] <= '9';
         }
     }
 

@@ -49,6 +49,8 @@ public final class ForetoldTest {
         C.due("61", x.liveAhead(61), Checks.BAD);
         C.due("-1", x.liveAhead(-1), Checks.BAD);
         C.due("who lives", x.count(4), 7);
+        x = Checks.land("n6,0;t0,1;w0,1,0;w0,5,0;");
+        C.due("the first is dead", x.liveAhead(1), 2);
     }
 
     private static void dies() {
@@ -100,6 +102,12 @@ public final class ForetoldTest {
         NextNames x = Checks.land("n6,0;t0,1;w0,1,1;");
         C.due("never: dies", x.keepDays(0, 6, 2, 0), Checks.NONE);
         C.due("never: days", x.keepDays(0, 6, 2, 1), 0);
+        x = Checks.land("n5,0;t0,1;w0,3,2;");
+        // One, on day 1: 3, 0, 2, 4 by 1, 2, 3, 4; on day 2: 0, 0, 2, 4. Both: 3, 3, 0, 2, 4, 1 by 1, 2, 3, 4, 0, 1.
+        C.due("one: dies", x.keepDays(0, 2, 1, 0), 4);
+        C.due("one: the least bits", x.keepDays(0, 2, 1, 1), 1);
+        C.due("both: dies", x.keepDays(0, 2, 2, 0), 6);
+        C.due("both: days", x.keepDays(0, 2, 2, 1), 3);
         x = Checks.land("n4,0;t0,2;w0,2,1;");
         // Free: day 1 thing 2, he 3; day 2 thing 0, he 0: dead. Kept in on day 1 he is struck at 2 at once. Kept in on
         // day 2: thing 0, he 3; day 3 thing 2, he 0; day 4 thing 0, he 1; day 5 thing 2, he 2: dead.
@@ -134,6 +142,7 @@ public final class ForetoldTest {
         C.due("60", x.names(0, 60), 3);
         C.due("chased; later there; there at once", x.names(1, 1), 3);
         C.due("4", x.names(1, 4), 1);
+        C.due("not the first", Checks.land("n6,0;t1,0;t3,0;s0,1,0;").names(0, 1), 2);
         C.due("n 0", x.names(0, 0), Checks.BAD);
         C.due("n 61", x.names(0, 61), Checks.BAD);
         C.due("nobody", x.names(2, 1), Checks.BAD);
@@ -152,6 +161,8 @@ public final class ForetoldTest {
         C.due("three ways to go", x.safest(0), 1);
         x.keepIn(0, 60);
         C.due("kept in, the first that is free", x.safest(0), 0);
+        C.due("the last", Checks.land("n2,0;t0,0;w0,0,0;").safest(0), 1);
+        C.due("all alike: the first", Checks.land("n2,0;t0,1;b0,0,0;").safest(0), 0);
         C.due("nobody", x.safest(1), Checks.BAD);
         x.keepIn(0, 0);
         x.days(1);
@@ -298,6 +309,9 @@ public final class ForetoldTest {
         C.due("p 11", x.still(0, 11, 0), Checks.BAD);
         C.due("what 2", x.still(0, 0, 2), Checks.BAD);
         C.due("nobody", x.still(4, 0, 0), Checks.BAD);
+        NextNames later = Checks.land("n6,2;t0,1;w0,2,0;w0,4,1;");
+        still(later, 0, 0, 1, 1);
+        still(later, 1, 10, 1, 1);
         x.nail(0, 1);
         still(x, 0, 3, 1, 1);
         still(x, 1, 3, 0, 1);

@@ -144,6 +144,13 @@ public final class LandTest {
         fault("n1 ", 1, 2);
         fault("n2,9 ", 4, 1);
         fault("n2,9;t1,1;w0,0,0;1", 17, 1);
+        NextNames x = new NextNames();
+        Checks.read(x, "n2,12");
+        C.due("what stood on the tape before is gone", Checks.read(x, "n2,1"), -1000104);
+        String full = "n16,09;" + "t15,15;".repeat(5) + "w00,15,09;".repeat(5) + "w0,15,09";
+        C.due("a full tape", full.length(), 100);
+        C.due("that ends with a figure", Checks.read(x, full), -1000200);
+        C.due("its number", x.fault(), 1);
     }
 
     private static void afterwards() {

@@ -26,7 +26,9 @@ public final class RowsTest {
         C.due("least int", x.row(0, 0, Integer.MIN_VALUE), Checks.SIZE);
         C.due("BAD ahead of SIZE", x.row(0, 3, -1), Checks.BAD);
         C.due("what is found leaves the row", x.set(0, 2, 9), 9);
+        x.set(0, 0, 9);
         x.row(0, 1, 3);
+        C.due("a new row is 0", isItem(x, 0, 0, 0) ? 1 : 0, 1);
         C.due("a new row is 0", isItem(x, 0, 2, 0) ? 1 : 0, 1);
         C.due("a new row has its own lane", x.set(0, 0, 40000), 40000 - 65536);
     }

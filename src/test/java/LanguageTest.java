@@ -1,0 +1,111 @@
+import java.lang.reflect.Constructor;
+import java.lang.reflect.Field;
+import java.lang.reflect.Method;
+import java.lang.reflect.Modifier;
+import java.nio.charset.StandardCharsets;
+import java.nio.file.Files;
+import java.nio.file.Path;
+import java.util.List;
+import java.util.Set;
+import java.util.TreeSet;
+import java.util.regex.Matcher;
+import java.util.regex.Pattern;
+
+/** The face of the document, and the rules of LANGUAGE.md that a program can look for. */
+public final class LanguageTest {
+    private static final Checks C = new Checks();
+    private static final Set<String> FACE = new TreeSet<>(List.of(
+        "row/3", "set/3", "copy/5", "drop/1", "feed/1", "land/0", "fault/0", "undo/0", "days/1", "carry/2", "nail/2",
+        "keepIn/2", "call/2", "move/2", "person/2", "thing/2", "ahead/2", "liveAhead/1", "dies/1", "keepDays/4",
+        "nails/3", "names/2", "safest/1", "meet/2", "fatal/1", "called/4", "who/4", "steps/4", "namesakes/1",
+        "still/3", "life/0", "drawn/3", "image/1", "restore/1", "kind/1", "as/2", "ask/2", "trace/1", "count/1",
+        "status/0"));
+
+    public static void main(String[] args) throws Exception {
+        face();
+        members(NextNames.class);
+        for (Class<?> inside : NextNames.class.getDeclaredClasses()) {
+            C.due(inside + " is static", Modifier.isStatic(inside.getModifiers()) ? 1 : 0, 1);
+            members(inside);
+        }
+        C.due("twelve classes at most", NextNames.class.getDeclaredClasses().length <= 12 ? 1 : 0, 1);
+        String text = Files.readString(Path.of("src/main/java/NextNames.java"), StandardCharsets.ISO_8859_1);
+        words(text);
+        lengths(text);
+        C.end();
+    }
+
+    private static void due(String what, boolean holds) {
+        C.due(what, holds ? 1 : 0, 1);
+    }
+
+    private static void face() {
+        Set<String> seen = new TreeSet<>();
+        for (Method m : NextNames.class.getDeclaredMethods()) {
+            if (Modifier.isPublic(m.getModifiers())) {
+                seen.add(m.getName() + "/" + m.getParameterCount());
+                due(m + " answers as told", m.getReturnType() == (m.getName().equals("still") ? long.class : int.class));
+            } else {
+                due(m + " is private", Modifier.isPrivate(m.getModifiers()));
+            }
+        }
+        due("the face is " + seen, seen.equals(FACE));
+        Set<String> constants = new TreeSet<>();
+        for (Field f : NextNames.class.getDeclaredFields()) {
+            if (!Modifier.isPrivate(f.getModifiers())) {
+                constants.add(f.getName());
+                due(f + " is public, static and final", f.toString().startsWith("public static final int"));
+            }
+        }
+        due("the constants are " + constants, constants.equals(new TreeSet<>(List.of("NONE", "BAD", "STATE", "FULL"))));
+        C.due("constructors", NextNames.class.getDeclaredConstructors().length, 1);
+        due("the class is final", Modifier.isFinal(NextNames.class.getModifiers()));
+    }
+
+    private static void members(Class<?> c) {
+        int fields = 0;
+        for (Field f : c.getDeclaredFields()) {
+            boolean still = Modifier.isStatic(f.getModifiers());
+            due(f + ": a static field is final", !still || Modifier.isFinal(f.getModifiers()));
+            fields += still ? 0 : 1;
+        }
+        due(c + ": twenty fields at most", fields <= 20);
+        for (Method m : c.getDeclaredMethods()) {
+            due(m + ": seven parameters at most", m.getParameterCount() <= 7);
+            boolean named = FACE.stream().anyMatch(one -> one.startsWith(m.getName() + "/"));
+            due(m + ": no other bears a public name", !named || c == NextNames.class && Modifier.isPublic(m.getModifiers()));
+        }
+        for (Constructor<?> made : c.getDeclaredConstructors()) {
+            due(made + ": seven parameters at most", made.getParameterCount() <= 7);
+        }
+    }
+
+    private static void words(String text) {
+        String code = text.replaceAll("(?s)/\\*.*?\\*/", " ").replaceAll("//[^\n]*", " ");
+        String wrong = "\\b(throw|throws|try|catch|synchronized|assert|import|package|native|volatile|var|record)\\b"
+            + "|->|::|Exact|java\\.|\\bSystem\\.(?!arraycopy)|\\b(hashCode|toString|Object|Random|Thread)\\b";
+        Matcher m = Pattern.compile(wrong).matcher(code);
+        due("no word that the rules leave out", !m.find());
+        due("signs 1 to 127 alone", text.chars().allMatch(c -> c < 128));
+        due("every loop has its end", !code.contains("while (true)") && !code.contains("for (;;)"));
+    }
+
+    /** A method begins at eight spaces or four, and ends with its own brace there. */
+    private static void lengths(String text) {
+        String[] lines = text.split("\n");
+        int start = -1;
+        String open = "";
+        for (int i = 0; i < lines.length; i++) {
+            String indent = lines[i].replaceAll("\\S.*", "");
+            boolean head = lines[i].matches(" {4}( {4})?[^ /*].*\\) \\{");
+            if (head && start < 0 && (indent.length() == 4 || indent.length() == 8)) {
+                start = i;
+                open = indent;
+            } else if (start >= 0 && lines[i].equals(open + "}")) {
+                due("line " + (start + 1) + ": sixty lines at most", i - start < 60);
+                start = -1;
+            }
+        }
+        due("every method has its end", start < 0);
+    }
+}
