@@ -25,18 +25,14 @@ public final class LanguageTest {
         face();
         members(NextNames.class);
         for (Class<?> inside : NextNames.class.getDeclaredClasses()) {
-            C.due(inside + " is static", Modifier.isStatic(inside.getModifiers()) ? 1 : 0, 1);
+            C.holds(inside + " is static", Modifier.isStatic(inside.getModifiers()));
             members(inside);
         }
-        C.due("twelve classes at most", NextNames.class.getDeclaredClasses().length <= 12 ? 1 : 0, 1);
+        C.holds("twelve classes at most", NextNames.class.getDeclaredClasses().length <= 12);
         String text = Files.readString(Path.of("src/main/java/NextNames.java"), StandardCharsets.ISO_8859_1);
         words(text);
         lengths(text);
         C.end();
-    }
-
-    private static void due(String what, boolean holds) {
-        C.due(what, holds ? 1 : 0, 1);
     }
 
     private static void face() {
@@ -44,39 +40,39 @@ public final class LanguageTest {
         for (Method m : NextNames.class.getDeclaredMethods()) {
             if (Modifier.isPublic(m.getModifiers())) {
                 seen.add(m.getName() + "/" + m.getParameterCount());
-                due(m + " answers as told", m.getReturnType() == (m.getName().equals("still") ? long.class : int.class));
+                C.holds(m + " answers as told", m.getReturnType() == (m.getName().equals("still") ? long.class : int.class));
             } else {
-                due(m + " is private", Modifier.isPrivate(m.getModifiers()));
+                C.holds(m + " is private", Modifier.isPrivate(m.getModifiers()));
             }
         }
-        due("the face is " + seen, seen.equals(FACE));
+        C.holds("the face is " + seen, seen.equals(FACE));
         Set<String> constants = new TreeSet<>();
         for (Field f : NextNames.class.getDeclaredFields()) {
             if (!Modifier.isPrivate(f.getModifiers())) {
                 constants.add(f.getName());
-                due(f + " is public, static and final", f.toString().startsWith("public static final int"));
+                C.holds(f + " is public, static and final", f.toString().startsWith("public static final int"));
             }
         }
-        due("the constants are " + constants, constants.equals(new TreeSet<>(List.of("NONE", "BAD", "STATE", "FULL"))));
+        C.holds("the constants are " + constants, constants.equals(new TreeSet<>(List.of("NONE", "BAD", "STATE", "FULL"))));
         C.due("constructors", NextNames.class.getDeclaredConstructors().length, 1);
-        due("the class is final", Modifier.isFinal(NextNames.class.getModifiers()));
+        C.holds("the class is final", Modifier.isFinal(NextNames.class.getModifiers()));
     }
 
     private static void members(Class<?> c) {
         int fields = 0;
         for (Field f : c.getDeclaredFields()) {
             boolean still = Modifier.isStatic(f.getModifiers());
-            due(f + ": a static field is final", !still || Modifier.isFinal(f.getModifiers()));
+            C.holds(f + ": a static field is final", !still || Modifier.isFinal(f.getModifiers()));
             fields += still ? 0 : 1;
         }
-        due(c + ": twenty fields at most", fields <= 20);
+        C.holds(c + ": twenty fields at most", fields <= 20);
         for (Method m : c.getDeclaredMethods()) {
-            due(m + ": seven parameters at most", m.getParameterCount() <= 7);
+            C.holds(m + ": seven parameters at most", m.getParameterCount() <= 7);
             boolean named = FACE.stream().anyMatch(one -> one.startsWith(m.getName() + "/"));
-            due(m + ": no other bears a public name", !named || c == NextNames.class && Modifier.isPublic(m.getModifiers()));
+            C.holds(m + ": no other bears a public name", !named || c == NextNames.class && Modifier.isPublic(m.getModifiers()));
         }
         for (Constructor<?> made : c.getDeclaredConstructors()) {
-            due(made + ": seven parameters at most", made.getParameterCount() <= 7);
+            C.holds(made + ": seven parameters at most", made.getParameterCount() <= 7);
         }
     }
 
@@ -85,9 +81,9 @@ public final class LanguageTest {
         String wrong = "\\b(throw|throws|try|catch|synchronized|assert|import|package|native|volatile|var|record)\\b"
             + "|->|::|Exact|java\\.|\\bSystem\\.(?!arraycopy)|\\b(hashCode|toString|Object|Random|Thread)\\b";
         Matcher m = Pattern.compile(wrong).matcher(code);
-        due("no word that the rules leave out", !m.find());
-        due("signs 1 to 127 alone", text.chars().allMatch(c -> c < 128));
-        due("every loop has its end", !code.contains("while (true)") && !code.contains("for (;;)"));
+        C.holds("no word that the rules leave out", !m.find());
+        C.holds("signs 1 to 127 alone", text.chars().allMatch(c -> c < 128));
+        C.holds("every loop has its end", !code.contains("while (true)") && !code.contains("for (;;)"));
     }
 
     /** A method begins at eight spaces or four, and ends with its own brace there. */
@@ -102,10 +98,10 @@ public final class LanguageTest {
                 start = i;
                 open = indent;
             } else if (start >= 0 && lines[i].equals(open + "}")) {
-                due("line " + (start + 1) + ": sixty lines at most", i - start < 60);
+                C.holds("line " + (start + 1) + ": sixty lines at most", i - start < 60);
                 start = -1;
             }
         }
-        due("every method has its end", start < 0);
+        C.holds("every method has its end", start < 0);
     }
 }

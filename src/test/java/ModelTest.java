@@ -1,8 +1,6 @@
-import java.lang.reflect.InvocationTargetException;
 import java.lang.reflect.Method;
 import java.lang.reflect.Modifier;
 import java.util.ArrayList;
-import java.util.Arrays;
 import java.util.Comparator;
 import java.util.List;
 import java.util.Random;
@@ -26,7 +24,7 @@ public final class ModelTest {
         random = new Random(seed);
     }
 
-    public static void main(String[] args) throws Exception {
+    public static void main(String[] args) {
         for (int run = 0; run < RUNS; run++) {
             new ModelTest(run).run();
         }
@@ -44,7 +42,7 @@ public final class ModelTest {
         return all;
     }
 
-    private void run() throws Exception {
+    private void run() {
         int calls = 0;
         while (calls < CALLS && !apart) {
             if (random.nextInt(60) == 0 || calls == 0) {
@@ -90,7 +88,7 @@ public final class ModelTest {
         return text.toString();
     }
 
-    private int tellLand() throws Exception {
+    private int tellLand() {
         String text = landText();
         for (int i = 0; i < text.length(); i++) {
             both("feed", text.charAt(i));
@@ -100,7 +98,7 @@ public final class ModelTest {
     }
 
     /** A row that tells truly where one will be, were he called, or of a kind, or of a step, that he may not be of. */
-    private int tellRow() throws Exception {
+    private int tellRow() {
         int people = real.count(2);
         if (people == 0) {
             return 1;
@@ -125,7 +123,7 @@ public final class ModelTest {
         return 2 * n + 5;
     }
 
-    private void both(Method method) throws Exception {
+    private void both(Method method) {
         int[] args = new int[method.getParameterCount()];
         int most = Math.max(real.count(5), 3);
         for (int i = 0; i < args.length; i++) {
@@ -142,11 +140,11 @@ public final class ModelTest {
         }
     }
 
-    private void both(String name, int... args) throws Exception {
-        String call = name + Arrays.toString(args);
+    private void both(String name, int... args) {
+        String call = Checks.called(name, args);
         told.add(call);
-        long got = answer(real, name, args);
-        long want = answer(model, name, args);
+        long got = Checks.answer(real, name, args);
+        long want = Checks.answer(model, name, args);
         C.due(call, got, want);
         C.due("status() behind " + call, real.status(), model.status());
         if (got != want && !apart) {
@@ -155,21 +153,7 @@ public final class ModelTest {
         }
     }
 
-    private static long answer(Object of, String name, int[] args) throws Exception {
-        Class<?>[] types = new Class<?>[args.length];
-        Object[] values = new Object[args.length];
-        for (int i = 0; i < args.length; i++) {
-            types[i] = int.class;
-            values[i] = args[i];
-        }
-        try {
-            return ((Number) of.getClass().getMethod(name, types).invoke(of, values)).longValue();
-        } catch (InvocationTargetException e) {
-            throw new IllegalStateException(name + Arrays.toString(args) + " threw", e.getCause());
-        }
-    }
-
-    private void askAll() throws Exception {
+    private void askAll() {
         for (int what = 0; what < 8; what++) {
             both("count", what);
         }
