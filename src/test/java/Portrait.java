@@ -6,7 +6,8 @@ import java.util.List;
  * be seen by a change (the tape, the ACTS, the IMAGES, the ROWS) comes last; the object is used up by it.
  */
 final class Portrait {
-    private static final int MOST_CALLS = 390;
+    /** Of the 512 calls of an object the rest is for the tale ahead of it. */
+    private static final int MOST_CALLS = 400;
     private final NextNames x;
     private final List<String> lines = new ArrayList<>();
 
@@ -22,8 +23,9 @@ final class Portrait {
         one.acts();
         one.images();
         one.rows();
-        if (one.lines.size() > MOST_CALLS) {
-            throw new IllegalStateException("an object has 512 calls: a portrait took " + one.lines.size());
+        int calls = one.lines.size() + Checks.GLASS.length() + 1;
+        if (calls > MOST_CALLS) {
+            throw new IllegalStateException("a portrait took " + calls + " calls");
         }
         return one.lines;
     }
@@ -42,14 +44,14 @@ final class Portrait {
         for (int i = 0; i < 7; i++) {
             tell("trace", i);
         }
-        int people = x.count(2);
+        int people = (int) tell("count", 2);
         for (int p = 0; p < people; p++) {
             tell("kind", p);
             tell("person", p, 2);
             tell("person", p, 5);
             tell("dies", p);
         }
-        int things = x.count(1);
+        int things = (int) tell("count", 1);
         for (int t = 0; t < things; t++) {
             tell("thing", t, 1);
             tell("thing", t, 3);
@@ -61,13 +63,13 @@ final class Portrait {
     private void look() {
         tell("count", 3);
         tell("count", 4);
-        int people = x.count(2);
+        int people = (int) tell("count", 2);
         for (int p = 0; p < people; p++) {
             tell("person", p, 0);
             tell("person", p, 1);
             tell("person", p, 4);
         }
-        int things = x.count(1);
+        int things = (int) tell("count", 1);
         for (int t = 0; t < things; t++) {
             tell("thing", t, 0);
             tell("thing", t, 2);
