@@ -358,7 +358,11 @@ public final class EdgeForetoldTest {
         C.due("all but the first", Checks.land("n16,0;t0,0;w0,9,0;").safest(0), 1);
         C.due("all but the second", Checks.land("n16,0;t1,0;w0,9,0;").safest(0), 0);
         C.due("all die at once but one", Checks.land("n2,0;t1,0;w0,1,1;").safest(0), 1);
-        C.due("all alike: each dies in two", Checks.land("n2,0;t0,0;w0,0,1;").safest(0), 0);
+        C.due("each dies in two", Checks.land("n2,0;t0,0;w0,0,1;").safest(0), 0);
+        NextNames x = Checks.land("n4,0;t0,1;w0,2,0;");
+        C.due("it comes round to all: last to where it is", x.safest(0), 0);
+        x.keepIn(0, 60);
+        C.due("whether he is kept in or not", x.safest(0), 0);
     }
 
     /** SAFEST: "(never in 60 DAYS: best)". */
@@ -429,7 +433,7 @@ public final class EdgeForetoldTest {
 
     /** Promise 26: "the next n DAYS (1 to 60) .. BAD". */
     private static void fatalWithin() {
-        NextNames x = Checks.land("n16,0;t1,0;t2,0;t3,0;t4,0;t5,0;w0,0,1;w1,0,1;w2,0,1;w3,0,1;w4,0,1;");
+        NextNames x = Checks.land("n16,0;t1,0;t2,0;t3,0;t4,0;t5,0;w0,0,1;w1,0,1;w2,0,1;w3,0,1;s0,9,0;s0,9,0;w4,0,1;");
         for (int n = 1; n <= 5; n++) {
             C.due("in " + n, x.fatal(n), (1 << n) - 1);
         }
