@@ -1153,10 +1153,8 @@ public final class NextNames {
                     leave(12);
                     return 0 - sizeOfWalker();
                 case STAYER:
-                    return sizeOfStayer();
                 case RICH:
-                    leave(14);
-                    return 2 * sizeOfStayer();
+                    return sizeAmongStayers();
                 default:
                     return lentSize();
             }
@@ -1165,20 +1163,39 @@ public final class NextNames {
         int mark() {
             switch (sort) {
                 case WALKER:
-                    return markOfWalker();
+                case BOLD:
+                case KEPT:
+                    return markAmongWalkers();
+                case STAYER:
+                case RICH:
+                    leave(23);
+                    return lentMark() - sizeAmongStayers();
+                default:
+                    return lentMark();
+            }
+        }
+
+        /** MARK of all who walk: their SIZE asks for it anew, but it for no SIZE, so nothing calls itself. */
+        int markAmongWalkers() {
+            switch (sort) {
                 case BOLD:
                     leave(22);
                     return markOfWalker() - 1000;
                 case KEPT:
                     leave(24);
                     return 2 * markOfWalker();
-                case STAYER:
-                case RICH:
-                    leave(23);
-                    return lentMark() - size();
                 default:
-                    return lentMark();
+                    return markOfWalker();
             }
+        }
+
+        /** SIZE of all who stay: their MARK asks for it anew, but it for no MARK. */
+        int sizeAmongStayers() {
+            if (sort == RICH) {
+                leave(14);
+                return 2 * sizeOfStayer();
+            }
+            return sizeOfStayer();
         }
 
         int lentSize() {
@@ -1188,7 +1205,7 @@ public final class NextNames {
 
         int sizeOfWalker() {
             leave(11);
-            return lentSize() + mark();
+            return lentSize() + markAmongWalkers();
         }
 
         int sizeOfStayer() {

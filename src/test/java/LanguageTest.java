@@ -8,10 +8,8 @@ import java.nio.file.Path;
 import java.util.List;
 import java.util.Set;
 import java.util.TreeSet;
-import java.util.regex.Matcher;
-import java.util.regex.Pattern;
 
-/** The face of the document, and the rules of LANGUAGE.md that a program can look for. */
+/** The face of the document, and the members of all classes; RulesTest looks into the methods. */
 public final class LanguageTest {
     private static final Checks C = new Checks();
     private static final Set<String> FACE = new TreeSet<>(List.of(
@@ -28,10 +26,8 @@ public final class LanguageTest {
             C.holds(inside + " is static", Modifier.isStatic(inside.getModifiers()));
             members(inside);
         }
-        C.holds("twelve classes at most", NextNames.class.getDeclaredClasses().length <= 12);
         String text = Files.readString(Path.of("src/main/java/NextNames.java"), StandardCharsets.ISO_8859_1);
-        words(text);
-        lengths(text);
+        C.holds("signs 1 to 127 alone", text.chars().allMatch(c -> c > 0 && c < 128));
         C.end();
     }
 
@@ -74,34 +70,5 @@ public final class LanguageTest {
         for (Constructor<?> made : c.getDeclaredConstructors()) {
             C.holds(made + ": seven parameters at most", made.getParameterCount() <= 7);
         }
-    }
-
-    private static void words(String text) {
-        String code = text.replaceAll("(?s)/\\*.*?\\*/", " ").replaceAll("//[^\n]*", " ");
-        String wrong = "\\b(throw|throws|try|catch|synchronized|assert|import|package|native|volatile|var|record)\\b"
-            + "|->|::|Exact|java\\.|\\bSystem\\.(?!arraycopy)|\\b(hashCode|toString|Object|Random|Thread)\\b";
-        Matcher m = Pattern.compile(wrong).matcher(code);
-        C.holds("no word that the rules leave out", !m.find());
-        C.holds("signs 1 to 127 alone", text.chars().allMatch(c -> c < 128));
-        C.holds("every loop has its end", !code.contains("while (true)") && !code.contains("for (;;)"));
-    }
-
-    /** A method begins at eight spaces or four, and ends with its own brace there. */
-    private static void lengths(String text) {
-        String[] lines = text.split("\n");
-        int start = -1;
-        String open = "";
-        for (int i = 0; i < lines.length; i++) {
-            String indent = lines[i].replaceAll("\\S.*", "");
-            boolean head = lines[i].matches(" {4}( {4})?[^ /*].*\\) \\{");
-            if (head && start < 0 && (indent.length() == 4 || indent.length() == 8)) {
-                start = i;
-                open = indent;
-            } else if (start >= 0 && lines[i].equals(open + "}")) {
-                C.holds("line " + (start + 1) + ": sixty lines at most", i - start < 60);
-                start = -1;
-            }
-        }
-        C.holds("every method has its end", start < 0);
     }
 }

@@ -4,20 +4,26 @@ import java.util.ArrayList;
 import java.util.Comparator;
 import java.util.List;
 import java.util.Random;
+import java.util.Set;
 
-/** Every promise: long runs of drawn calls, each answer held against the Model's, and all that can be asked behind them. */
+/**
+ * Every promise: runs of drawn calls, each answer held against the Model's, and all that can be asked behind them. A run
+ * takes 512 calls, no more: what a later one answers is free.
+ */
 public final class ModelTest {
-    private static final int RUNS = 700, CALLS = 420;
+    private static final int RUNS = 1200, CALLS = 512, LAST_CALLS = 8 + 7 * 6 + 5 * 4 + 1;
     private static final int[] WILD = {
         Integer.MIN_VALUE, Integer.MIN_VALUE + 1, -1000000, -2, -1, 0, 1, 2, 12, 13, 40, 41, 60, 61, 100, 255, 256, 999,
         1000000, Integer.MAX_VALUE - 1, Integer.MAX_VALUE
     };
+    private static final Set<String> TOLD_BY_STATUS = Set.of("row", "set", "copy", "drop", "called", "who", "steps", "as");
     private static final Checks C = new Checks();
     private static final List<Method> METHODS = methods();
     private final Random random;
     private final NextNames real = new NextNames();
     private final Model model = new Model();
     private final List<String> told = new ArrayList<>();
+    private int callsLeft = CALLS - LAST_CALLS;
     private boolean apart = false;
 
     private ModelTest(long seed) {
@@ -43,18 +49,19 @@ public final class ModelTest {
     }
 
     private void run() {
-        int calls = 0;
-        while (calls < CALLS && !apart) {
-            if (random.nextInt(60) == 0 || calls == 0) {
-                calls += tellLand();
+        tellLand();
+        while (callsLeft > 0 && !apart) {
+            if (random.nextInt(60) == 0) {
+                tellLand();
             } else if (random.nextInt(25) == 0) {
-                calls += tellRow();
+                tellRow();
             } else {
                 both(METHODS.get(random.nextInt(METHODS.size())));
-                calls++;
             }
         }
+        callsLeft = LAST_CALLS;
         askAll();
+        C.due("calls of the run that are left", callsLeft, 0);
     }
 
     private int number(int high) {
@@ -88,30 +95,29 @@ public final class ModelTest {
         return text.toString();
     }
 
-    private int tellLand() {
+    private void tellLand() {
         String text = landText();
         for (int i = 0; i < text.length(); i++) {
             both("feed", text.charAt(i));
         }
         both("land");
-        return text.length() + 1;
     }
 
     /** A row that tells truly where one will be, were he called, or of a kind, or of a step, that he may not be of. */
-    private int tellRow() {
-        int people = real.count(2);
+    private void tellRow() {
+        int people = model.count(2);
         if (people == 0) {
-            return 1;
+            return;
         }
         int person = random.nextInt(people);
         int row = random.nextInt(8);
         int n = 1 + number(11);
         both("row", row, number(2), n);
         if (random.nextBoolean()) {
-            both("call", person, random.nextInt(real.count(1)));
+            both("call", person, random.nextInt(model.count(1)));
         }
         for (int i = 0; i < n; i++) {
-            int place = real.ahead(person, i + 1);
+            int place = model.ahead(person, i + 1);
             both("set", row, i, place == Checks.NONE ? -1 : place);
         }
         if (random.nextBoolean()) {
@@ -120,12 +126,11 @@ public final class ModelTest {
         both("called", person, row, 0, n);
         both("who", person, row, 0, n);
         both("steps", person, row, 0, n);
-        return 2 * n + 5;
     }
 
     private void both(Method method) {
         int[] args = new int[method.getParameterCount()];
-        int most = Math.max(real.count(5), 3);
+        int most = Math.max(model.count(5), 3);
         for (int i = 0; i < args.length; i++) {
             int way = random.nextInt(40);
             args[i] = way == 0 ? WILD[random.nextInt(WILD.length)] : way < 6 ? number(60) : way < 20 ? number(most) : number(6);
@@ -141,12 +146,22 @@ public final class ModelTest {
     }
 
     private void both(String name, int... args) {
+        hold(name, args);
+        if (TOLD_BY_STATUS.contains(name) || random.nextInt(8) == 0) {
+            hold("status");
+        }
+    }
+
+    private void hold(String name, int... args) {
+        if (callsLeft == 0) {
+            return;
+        }
+        callsLeft--;
         String call = Checks.called(name, args);
         told.add(call);
         long got = Checks.answer(real, name, args);
         long want = Checks.answer(model, name, args);
         C.due(call, got, want);
-        C.due("status() behind " + call, real.status(), model.status());
         if (got != want && !apart) {
             apart = true;
             System.out.println("   behind " + told);
@@ -155,17 +170,18 @@ public final class ModelTest {
 
     private void askAll() {
         for (int what = 0; what < 8; what++) {
-            both("count", what);
+            hold("count", what);
         }
         for (int p = 0; p < 7; p++) {
             for (int what = 0; what < 6; what++) {
-                both("person", p, what);
+                hold("person", p, what);
             }
         }
         for (int t = 0; t < 5; t++) {
             for (int what = 0; what < 4; what++) {
-                both("thing", t, what);
+                hold("thing", t, what);
             }
         }
+        hold("status");
     }
 }
