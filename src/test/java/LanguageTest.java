@@ -5,7 +5,9 @@ import java.lang.reflect.Modifier;
 import java.nio.charset.StandardCharsets;
 import java.nio.file.Files;
 import java.nio.file.Path;
+import java.util.IdentityHashMap;
 import java.util.List;
+import java.util.Map;
 import java.util.Set;
 import java.util.TreeSet;
 
@@ -28,6 +30,7 @@ public final class LanguageTest {
         }
         String text = Files.readString(Path.of("src/main/java/NextNames.java"), StandardCharsets.ISO_8859_1);
         C.holds("signs 1 to 127 alone", text.chars().allMatch(c -> c > 0 && c < 128));
+        room();
         C.end();
     }
 
@@ -70,5 +73,37 @@ public final class LanguageTest {
         for (Constructor<?> made : c.getDeclaredConstructors()) {
             C.holds(made + ": seven parameters at most", made.getParameterCount() <= 7);
         }
+    }
+
+    /** Rule 12: what an object holds is small, and calls add nothing to it (RulesTest: only constructors make objects). */
+    private static void room() throws ReflectiveOperationException {
+        Map<Object, Object> seen = new IdentityHashMap<>();
+        int fields = walk(Checks.land("n9,4;t2,2;t7,0;w1,1,2;s0,3,1;"), seen);
+        C.holds("400 objects at most, not " + seen.size(), seen.size() <= 400);
+        C.holds("4000 fields and elements at most, not " + fields, fields <= 4000);
+    }
+
+    /** How many fields and elements there are in all that can be reached. */
+    private static int walk(Object of, Map<Object, Object> seen) throws ReflectiveOperationException {
+        if (of == null || seen.put(of, of) != null) {
+            return 0;
+        }
+        if (of instanceof int[]) {
+            return ((int[]) of).length;
+        }
+        int fields = 0;
+        if (of instanceof Object[]) {
+            for (Object one : (Object[]) of) {
+                fields += 1 + walk(one, seen);
+            }
+            return fields;
+        }
+        for (Field f : of.getClass().getDeclaredFields()) {
+            if (!Modifier.isStatic(f.getModifiers())) {
+                f.setAccessible(true);
+                fields += 1 + (f.getType().isPrimitive() ? 0 : walk(f.get(of), seen));
+            }
+        }
+        return fields;
     }
 }
